@@ -31,6 +31,12 @@ public final class ParlourLeaves {
     private static final int IMAGES = 2;
     private static final int OTHER_LIVES = -1000;
 
+    // A word is a number of seven times five bits, so that unlike words are unlike numbers.
+    private static final int MOST_LETTERS = 7;
+    private static final int LETTER_BITS = 5;
+    private static final int MOST_DIGITS = 3;
+    private static final int MOST_NUMBER = 999;
+
     // Sorts of names, numbered as count() numbers them.
     private static final int PARLOURS = 0;
     private static final int PLANTS = 1;
@@ -520,7 +526,7 @@ public final class ParlourLeaves {
     private static int plantAt(int bits, int k) {
         int left = k;
         for (int place = 0; place < MOST_PLANTS; place++) {
-            if ((bits >>> place & 1) == 1) {
+            if (hasBit(bits, place)) {
                 if (left == 0) {
                     return place;
                 }
@@ -559,7 +565,7 @@ public final class ParlourLeaves {
                 if (sign == ' ') {
                     key++;
                 } else {
-                    keys[key] = withLetter(keys[key], sign);
+                    keys[key] = keys[key] << LETTER_BITS | sign - 'a' + 1;
                 }
             }
         }
@@ -582,11 +588,6 @@ public final class ParlourLeaves {
             faultKind = 0;
             faultPlace = 0;
             read();
-        }
-
-        /** Seven letters of five bits each: unlike words are unlike numbers. */
-        private static long withLetter(long letters, char letter) {
-            return letters << 5 | letter - 'a' + 1;
         }
 
         void read() {
@@ -619,7 +620,7 @@ public final class ParlourLeaves {
                 char sign = bytes[next];
                 if (sign >= 'a' && sign <= 'z') {
                     letters++;
-                    word = withLetter(word, sign);
+                    word = word << LETTER_BITS | sign - 'a' + 1;
                 } else if (sign >= '0' && sign <= '9') {
                     digits++;
                     value = value * 10 + sign - '0';
@@ -628,10 +629,10 @@ public final class ParlourLeaves {
                 }
             }
             if (letters == 0) {
-                token = digits <= 3 ? NUMERAL : NO_TOKEN;
+                token = digits <= MOST_DIGITS ? NUMERAL : NO_TOKEN;
                 return;
             }
-            token = digits == 0 && letters <= 7 ? NAME : NO_TOKEN;
+            token = digits == 0 && letters <= MOST_LETTERS ? NAME : NO_TOKEN;
             for (int key = 0; token == NAME && key < KEY_COUNT; key++) {
                 if (keys[key] == word) {
                     token = key;
@@ -670,6 +671,17 @@ public final class ParlourLeaves {
             }
             read();
             return house.wordNumber[place];
+        }
+
+        /** One of the signs that compare, or NONE with a fault. */
+        int takeSign() {
+            int sign = token;
+            if (sign != LESS && sign != EQUAL && sign != MORE) {
+                fail(CANT_COME);
+                return NONE;
+            }
+            read();
+            return sign;
         }
 
         /** A number from the least to the most, or NONE with a fault. */
@@ -770,7 +782,7 @@ public final class ParlourLeaves {
         }
 
         void appendPlantName(StringBuilder text, int p) {
-            for (int shift = 30; shift >= 0; shift -= 5) {
+            for (int shift = (MOST_LETTERS - 1) * LETTER_BITS; shift >= 0; shift -= LETTER_BITS) {
                 int letter = (int) (plantWord[p] >>> shift & 31);
                 if (letter != 0) {
                     text.append((char) ('a' + letter - 1));
@@ -1368,8 +1380,9 @@ public final class ParlourLeaves {
             System.arraycopy(other.second, 0, second, 0, parts);
         }
 
-        boolean add(int partKind, int a, int b) {
-            if (parts >= MOST_PARTS) {
+        /** False where what it is about could not be read. */
+        private boolean add(int partKind, int a, int b) {
+            if (a == NONE || b == NONE || parts >= MOST_PARTS) {
                 return false;
             }
             kind[parts] = partKind;
@@ -1430,32 +1443,19 @@ public final class ParlourLeaves {
                 case NOT: return readOne(tape, house, within + 1) && add(NOT, 0, 0);
                 case OPEN: return readCond(tape, house, within + 1) && tape.take(CLOSE);
                 case IN:
-                case SEES: return addNamed(begin, tape.takeKnown(house, PARLOURS));
-                case TELLS: return addNamed(begin, tape.takeKnown(house, PERSONS));
-                case LEAVES:
-                case DUST:
-                case NUMBER: return readMeasure(tape, begin);
-                default: return add(begin, 0, 0);
+                case SEES: return add(begin, tape.takeKnown(house, PARLOURS), 0);
+                case TELLS: return add(begin, tape.takeKnown(house, PERSONS), 0);
+                case BLIND:
+                case FERN: return add(begin, 0, 0);
+                default: break;
             }
+            int sign = tape.takeSign();
+            return sign != NONE && add(begin, sign, tape.takeNumber(0, MOST_NUMBER));
         }
 
         private static boolean canBeginOne(int token) {
             return token == OPEN || token == FERN || token == NOT || token == BLIND
                     || token >= IN && token <= NUMBER;
-        }
-
-        private boolean addNamed(int key, int number) {
-            return number != NONE && add(key, number, 0);
-        }
-
-        private boolean readMeasure(Tape tape, int key) {
-            int sign = tape.token;
-            if (sign != LESS && sign != EQUAL && sign != MORE) {
-                return tape.fail(CANT_COME);
-            }
-            tape.read();
-            int number = tape.takeNumber(0, 999);
-            return number != NONE && add(key, sign, number);
         }
 
         /** The plants of which it may be said, as bits, found for all of them part by part. */

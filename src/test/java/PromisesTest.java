@@ -167,6 +167,21 @@ public final class PromisesTest {
         due("its acts", x.now(1), 0);
         due("no sentence", x.said(NONE), NONE);
         due("nothing to undo", x.undo(), NONE);
+        // The same names again on one object, and nothing of the house before them.
+        for (int k = 0; k < 2; k++) {
+            Check.tape(x, HOUSE);
+            due("the same house again", x.house(), 16);
+        }
+        x.days(2);
+        x.does(0, 0, 0);
+        Check.tape(x, "parlour a;parlour b;parlour c;plant p b 2;person n;deed d;");
+        x.house();
+        due("no sights left", x.sights(0) | x.sights(1) | x.sights(2), 0);
+        due("no dust left", x.plant(0, 3), 0);
+        due("its parlour", x.plant(0, 0), 1);
+        due("no fern", x.plant(0, 2), 0);
+        x.does(0, 0, 1);
+        due("no leaf left", x.comes(0, 0), 2);
     }
 
     private static void faults() {
@@ -195,6 +210,15 @@ public final class PromisesTest {
             dueHouse("parlour a;sight a " + key + ";", -19, 1);
         }
         dueHouse("person dusti;person leaf;", 2, 0);
+        // Low bytes are no tokens, and none of them is taken for a word.
+        for (int b = 0; b < 256; b++) {
+            if (b != ' ' && b != '\n' && !(b >= 'a' && b <= 'z')) {
+                dueHouse((char) b + " 4;", -1, 1);
+            }
+        }
+        dueBook("\u000b 1;", -2, 1);
+        dueSentence("\u000f", -1, 1);
+        dueSentence("leaves : 1", -8, 1);
         // 2: numbers.
         dueHouse("dusty 0;", -7, 2);
         dueHouse("dusty 61;", -7, 2);
@@ -351,6 +375,7 @@ public final class PromisesTest {
         }
         due("now(-1)", x.now(-1), NONE);
         x.days(2);
+        due("leaves come, the first plant's, too", x.now(5), 3);
         due("seeing", x.now(3), 2);
         due("unseen", x.now(7), 9);
         x.days(2);
@@ -654,6 +679,8 @@ public final class PromisesTest {
     private static void choice() {
         ParlourLeaves x = new ParlourLeaves();
         due("choice() without parlours", x.choice(), NONE);
+        due("chosen(0) ahead of any", x.chosen(0), NONE);
+        due("chosen(1) ahead of any", x.chosen(1), NONE);
         due("chosen(2) ahead of any", x.chosen(2), NONE);
         x = house();
         due("choice()", x.choice(), 1);
@@ -677,9 +704,14 @@ public final class PromisesTest {
         due("choice() of two in one", x.choice(), 1);
         due("the least plant", x.chosen(0), 0);
         due("whither", x.chosen(1), 1);
+        x.carry(0, 1);
+        x.carry(1, 1);
+        due("choice() of two in the other", x.choice(), 1);
+        due("the least plant", x.chosen(0), 0);
+        due("whither", x.chosen(1), 0);
         x.house();
         due("choice() without parlours", x.choice(), NONE);
-        due("chosen(1) stays", x.chosen(1), 1);
+        due("chosen(1) stays", x.chosen(1), 0);
     }
 
     private static void elder() {
@@ -724,6 +756,8 @@ public final class PromisesTest {
         ParlourLeaves x = house();
         due("drawn(0, 1)", x.drawn(0, 1), NONE);
         due("drawn(61, 1)", x.drawn(61, 1), NONE);
+        due("drawn(1, 1)", x.drawn(1, 1), 1);
+        due("undo of it", x.undo(), 0);
         ParlourLeaves y = house();
         // The document's draws by hand: what each person does on each day.
         int[] seed = {77};
@@ -793,6 +827,7 @@ public final class PromisesTest {
         due("odds(-1, 1, 1)", x.odds(-1, 1, 1), NONE);
         due("odds(0, 0, 1)", x.odds(0, 0, 1), NONE);
         due("odds(0, 31, 1)", x.odds(0, 31, 1), NONE);
+        due("odds(0, 1, 1)", x.odds(0, 1, 1) >= 0, true);
         int sum = 0;
         int start = Integer.MAX_VALUE - 10;
         for (int k = 0; k < 30; k++) {
@@ -814,7 +849,9 @@ public final class PromisesTest {
 
     private static void books() {
         ParlourLeaves x = house();
-        due("told(0) ahead of any", x.told(0), NONE);
+        for (int k = 0; k < 4; k++) {
+            due("told(" + k + ") ahead of any", x.told(k), NONE);
+        }
         Check.tape(x, "day 1;");
         due("book(2)", x.book(2), -1000);
         due("book(-1)", x.book(-1), -1000);
@@ -902,6 +939,10 @@ public final class PromisesTest {
         dueSentence("not not not not not not not fern", 8, 0);
         dueSentence("((((((( fern )))))))", 8, 0);
         dueSentence("fern" + times(19, " or fern"), 20, 0);
+        dueSentence("fern" + times(19, " and fern"), 20, 0);
+        dueSentence("fern" + times(20, " and fern"), -181, 4);
+        dueSentence("fernand fern", -1, 1);
+        dueSentence("leaves < 999 and not ( dust = 000 )", 4, 0);
         dueSentence("", -1, 1);
         dueSentence("  ", -3, 1);
         dueSentence("blind blind", -7, 1);
