@@ -32,6 +32,9 @@ public final class RandomRunsTest {
     }
 
     private int near(int n) {
+        if (below(200) == 0) {
+            return below(2) == 0 ? Integer.MAX_VALUE - below(2) : Integer.MIN_VALUE + below(2);
+        }
         return rarely() ? below(20) - 8 : below(Math.max(1, n));
     }
 
