@@ -27,7 +27,6 @@ public final class ParlourLeaves {
     private static final int MOST_PAIRS = 6;
     private static final int ODDS_DAYS = 20;
     private static final int LAST_DAY = 400;
-    private static final int EVER = 1000000;
     private static final int IMAGES = 2;
     private static final int OTHER_LIVES = -1000;
 
@@ -205,7 +204,7 @@ public final class ParlourLeaves {
             case 2: return life.where[i];
             case 3: return life.when[i];
             case 4: return life.witnessesBy(i, life.day);
-            case 5: return life.witnesses(i);
+            case 5: return life.witnessesDue(i);
             case 6: return life.isProved(i) ? 1 : 0;
             default: throw new NoSuchElementException();
         }
@@ -918,9 +917,15 @@ public final class ParlourLeaves {
             return bits;
         }
 
-        /** Plants that put up a leaf for an act, whether it has come or not. */
-        int witnesses(int i) {
-            return witnessesBy(i, EVER);
+        /** Plants whose leaves for an act are still to come. */
+        int witnessesDue(int i) {
+            int bits = 0;
+            for (int p = 0; p < plants(); p++) {
+                if (leafDay[p][i] > day) {
+                    bits |= 1 << p;
+                }
+            }
+            return bits;
         }
 
         boolean isProved(int i) {

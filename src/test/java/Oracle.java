@@ -541,7 +541,7 @@ final class Oracle {
             come += life.come(p, i) ? 1 << p : 0;
             all += life.leaves.get(p).containsKey(i) ? 1 << p : 0;
         }
-        return what == 4 ? come : what == 5 ? all : life.proved(i) ? 1 : 0;
+        return what == 4 ? come : what == 5 ? all - come : life.proved(i) ? 1 : 0;
     }
 
     int comes(int p, int i) {

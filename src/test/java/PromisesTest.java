@@ -309,16 +309,44 @@ public final class PromisesTest {
         }
         x.days(1);
         due("come", x.act(0, 4), 2);
-        due("put up, come or not", x.act(0, 5), 11);
+        due("still to come behind one", x.act(0, 5), 9);
         due("proved by one", x.act(0, 6), 0);
         x.days(1);
         due("come", x.act(0, 4), 10);
+        due("still to come behind two", x.act(0, 5), 1);
         due("proved by two", x.act(0, 6), 1);
+        x.carry(0, 3);
+        due("still to come of one carried off", x.act(0, 5), 1);
         x.days(1);
         due("come", x.act(0, 4), 11);
+        due("none to come", x.act(0, 5), 0);
+        x.undo();
+        due("still to come behind undo()", x.act(0, 5), 1);
+        actLeaves();
         for (int[] no : new int[][] {{-1, 0}, {1, 0}, {0, -1}, {0, 7}, {12, 0}}) {
             CHECK.dueThrow("act(" + no[0] + ", " + no[1] + ")", () -> x.act(no[0], no[1]));
         }
+    }
+
+    /** Which leaves of an act have come and which are to come, as its days go and on the last day. */
+    private static void actLeaves() {
+        ParlourLeaves x = house();
+        x.does(0, 0, 2);
+        x.does(1, 1, 0);
+        x.does(1, 0, 3);
+        int[][] come = {{0, 0}, {2, 0}, {10, 0}, {11, 0}, {11, 8}, {11, 8}, {11, 9}};
+        for (int day = 0; day < come.length; day++) {
+            for (int i = 0; i < 2; i++) {
+                due("act(" + i + ", 4) on day " + day, x.act(i, 4), come[day][i]);
+                due("act(" + i + ", 5) on day " + day, x.act(i, 5), come[come.length - 1][i] - come[day][i]);
+            }
+            due("act(2, 5): what none sees", x.act(2, 5), 0);
+            x.days(1);
+        }
+        onDay(x, 400);
+        x.sponge(3);
+        x.does(0, 0, 0);
+        due("to come behind the last day", x.act(3, 5), 8);
     }
 
     private static void comes() {
