@@ -1,3 +1,8 @@
+import java.io.IOException;
+import java.nio.file.Files;
+import java.nio.file.Path;
+import java.util.ArrayList;
+import java.util.List;
 import java.util.NoSuchElementException;
 import java.util.function.LongSupplier;
 
@@ -6,15 +11,25 @@ final class Check {
     /** Stands for a NoSuchElementException among answers. */
     static final long THROWS = Long.MIN_VALUE;
 
+    private static final Path DOCUMENT = Path.of("../shared/DOC.md");
+
     private int asked = 0;
     private int wrong = 0;
+    private String by = "";
+    private final List<String> sentences = new ArrayList<>();
+
+    /** What is looked at next is due by these sentences of the document. */
+    void says(String... quoted) {
+        by = ", by '" + String.join("' or '", quoted) + "'";
+        sentences.addAll(List.of(quoted));
+    }
 
     void due(String call, long got, long want) {
         asked++;
         if (got != want) {
             wrong++;
             if (wrong <= 50) {
-                System.out.println(call + " answered " + shown(got) + ", due is " + shown(want));
+                System.out.println(call + " answered " + shown(got) + ", due is " + shown(want) + by);
             }
         }
     }
@@ -31,7 +46,22 @@ final class Check {
         return wrong > 0;
     }
 
+    /** A document that changed is told of and is no fault of the class's. */
+    private void lookUpSentences() {
+        try {
+            String document = Files.exists(DOCUMENT) ? Files.readString(DOCUMENT).replaceAll("\\s+", " ") : null;
+            for (String quoted : sentences) {
+                if (document != null && !document.contains(quoted)) {
+                    System.out.println("the document has no '" + quoted + "'");
+                }
+            }
+        } catch (IOException e) {
+            System.out.println("the document could not be read: " + e);
+        }
+    }
+
     void finish() {
+        lookUpSentences();
         System.out.println(asked + " answers looked at, " + wrong + " not as due");
         if (wrong != 0) {
             System.exit(1);

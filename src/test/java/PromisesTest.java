@@ -1,93 +1,5 @@
 /** Each promise of the document by ordinary inputs, the edges that it names, and wrong inputs. */
-public final class PromisesTest {
-    private static final int NONE = ParlourLeaves.NONE;
-    private static final Check CHECK = new Check();
-
-    /** front 0 - hall 2 - back 1, den 3 apart; green is a fern. */
-    private static final String HOUSE = "parlour front;parlour back;parlour hall;parlour den;"
-        + "sight front hall;sight hall back;plant old front 3;plant new back 1;plant green den 2 fern;plant maid hall 2;"
-        + "person ann;person bob;deed kiss;deed lie;dusty 4;proof 2;";
-
-    private static void due(String call, long got, long want) {
-        CHECK.due(call, got, want);
-    }
-
-    private static void due(String call, boolean got, boolean want) {
-        CHECK.due(call, got, want);
-    }
-
-    private static ParlourLeaves house(String text) {
-        ParlourLeaves x = new ParlourLeaves();
-        Check.tape(x, text);
-        x.house();
-        return x;
-    }
-
-    private static ParlourLeaves house() {
-        return house(HOUSE);
-    }
-
-    private static ParlourLeaves onDay(ParlourLeaves x, int day) {
-        for (int left = day - x.now(0); left > 0; left = day - x.now(0)) {
-            x.days(Math.min(60, left));
-        }
-        return x;
-    }
-
-    private static int book(ParlourLeaves x, String text, int lives) {
-        Check.tape(x, text);
-        return x.book(lives);
-    }
-
-    private static int sentence(ParlourLeaves x, String text) {
-        Check.tape(x, text);
-        return x.sentence();
-    }
-
-    private static int fits(ParlourLeaves x, int... bytes) {
-        StringBuilder s = new StringBuilder();
-        for (int b : bytes) {
-            s.append((char) b);
-        }
-        Check.tape(x, s.toString());
-        return x.fits();
-    }
-
-    private static String times(int n, String text) {
-        return text.repeat(n);
-    }
-
-    private static String card(ParlourLeaves x, int p) {
-        int n = x.card(p);
-        StringBuilder s = new StringBuilder();
-        for (int k = 0; k < n; k++) {
-            s.append((char) x.byteAt(k));
-        }
-        return s.toString();
-    }
-
-    private static void dueHouse(String text, int answer, int kind) {
-        ParlourLeaves x = new ParlourLeaves();
-        Check.tape(x, text);
-        due("house() of '" + text + "'", x.house(), answer);
-        due("fault() of '" + text + "'", x.fault(), kind);
-        due("tape behind '" + text + "'", x.count(6), 0);
-    }
-
-    private static void dueBook(String text, int answer, int kind) {
-        ParlourLeaves x = house();
-        due("book(0) of '" + text + "'", book(x, text, 0), answer);
-        due("fault() of '" + text + "'", x.fault(), kind);
-        due("tape behind '" + text + "'", x.count(6), 0);
-    }
-
-    private static void dueSentence(String text, int answer, int kind) {
-        ParlourLeaves x = house();
-        due("sentence() of '" + text + "'", sentence(x, text), answer);
-        due("fault() of '" + text + "'", x.fault(), kind);
-        due("tape behind '" + text + "'", x.count(6), 0);
-    }
-
+public final class PromisesTest extends Play {
     private static void newObject() {
         ParlourLeaves x = new ParlourLeaves();
         int[] counts = {0, 0, 0, 0, 6, 2, 0, NONE};
@@ -844,11 +756,6 @@ public final class PromisesTest {
         due("drawn without deeds", w.plant(0, 0), at);
     }
 
-    private static int draw(int[] seed, int n) {
-        seed[0] = seed[0] * 1103515245 + 12345;
-        return (seed[0] >>> 8) % n;
-    }
-
     private static void odds() {
         ParlourLeaves x = house();
         due("odds(2, 1, 1)", x.odds(2, 1, 1), NONE);
@@ -1001,15 +908,6 @@ public final class PromisesTest {
         dueSentence("fern" + times(197, " "), -201, 1);
         dueSentence("fern" + times(194, " ") + "and fern", -201, 1);
         dueSentence("fern" + times(194, " ") + "xandfern", -199, 1);
-    }
-
-    private static void dueSaid(ParlourLeaves x, String text, int... plants) {
-        due("sentence() of '" + text + "'", sentence(x, text) > 0, true);
-        due("said(NONE) of '" + text + "'", x.said(NONE), plants.length);
-        for (int k = 0; k < plants.length; k++) {
-            due("said(" + k + ") of '" + text + "'", x.said(k), plants[k]);
-        }
-        due("said beyond of '" + text + "'", x.said(plants.length), NONE);
     }
 
     private static void said() {
