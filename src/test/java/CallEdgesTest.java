@@ -113,8 +113,9 @@ public final class CallEdgesTest extends Play {
         due("is a house without parlours", x.count(0), 0);
         due("without plants", x.count(1), 0);
         due("nothing to undo", x.undo(), NONE);
-        due("a house of all", house(x, FULL), FULL_LINES);
-        due("the tape is empty", x.count(6), 0);
+        ParlourLeaves full = new ParlourLeaves();
+        due("a house of all", house(full, FULL), FULL_LINES);
+        due("the tape is empty", full.count(6), 0);
     }
 
     private static void fault() {
@@ -398,6 +399,14 @@ public final class CallEdgesTest extends Play {
                 due("guilty(" + person + ", " + d + ")", x.guilty(person, d), due[person][d]);
             }
         }
+        ParlourLeaves twelve = house();
+        doTimes(twelve, 11, 0);
+        twelve.does(1, 1, 2);
+        due("the last of twelve, ahead of its leaves", twelve.guilty(1, 1), 0);
+        onDay(twelve, 60);
+        due("the last of twelve", twelve.guilty(1, 1), 1);
+        due("the first of twelve", twelve.guilty(0, 0), 1);
+        due("neither", twelve.guilty(1, 0), 0);
         says("PROVES: the DAY (past ones, too); NONE: never (not by DAY 400), no such ACT.");
         due("past", x.proves(0), 2);
         x.does(0, 1, 3);

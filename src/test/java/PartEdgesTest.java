@@ -313,6 +313,12 @@ public final class PartEdgesTest extends Play {
         ParlourLeaves z = house("parlour a;plant f a 1 fern;plant p a 1;");
         due("one parlour", fits(z, 1, 1), 1);
         due("all of one and none of one are like", z.ask(), 0);
+        ParlourLeaves full = house(FULL);
+        due("all of five", fits(full, 5, 1), 31);
+        due("six that see all of five are like", full.ask(), 0);
+        ParlourLeaves last = house(parlours(5, "ab") + plants("ccccca"));
+        due("all but c", fits(last, 4, 0), 27);
+        due("the last of six sees two of four", last.ask(), 5);
     }
 
     private static void cover() {
@@ -431,11 +437,8 @@ public final class PartEdgesTest extends Play {
         for (int seed : new int[] {0, 1, -1, MAX, MIN, 77, 1103515245, -1103515245, 0x7fffff00, 0x80000100}) {
             ParlourLeaves x = house();
             ParlourLeaves y = house();
-            int[] by = {seed};
             due("drawn(20, " + seed + ")", x.drawn(20, seed), 20);
-            for (int day = 0; day < 20; day++) {
-                dayByHand(y, by);
-            }
+            daysByHand(y, 20, seed);
             due("by hand of seed " + seed, state(x), state(y));
         }
         says("(each draw of two is made, if there are some of both, else none; each thing done, if it can be)");
@@ -446,11 +449,8 @@ public final class PartEdgesTest extends Play {
             for (int seed : new int[] {3, 4, 5}) {
                 ParlourLeaves x = house(text);
                 ParlourLeaves y = house(text);
-                int[] by = {seed};
                 due("drawn(15, " + seed + ") of " + text, x.drawn(15, seed), 15);
-                for (int day = 0; day < 15; day++) {
-                    dayByHand(y, by);
-                }
+                daysByHand(y, 15, seed);
                 due("by hand of seed " + seed + " in " + text, state(x), state(y));
             }
         }

@@ -139,46 +139,60 @@ abstract class Play {
         return (int) ((next >> 8) % n);
     }
 
-    /** What a day of drawn ones does, by the other calls. */
-    static void dayByHand(ParlourLeaves x, int[] seed) {
-        for (int person = 0; person < x.count(2); person++) {
-            int turn = draw(seed, 6);
-            if (turn == 0 && x.count(3) > 0 && x.count(0) > 0) {
-                int d = draw(seed, x.count(3));
-                x.does(person, d, draw(seed, x.count(0)));
-            } else if (turn == 1 && x.count(1) > 0) {
-                x.sponge(draw(seed, x.count(1)));
-            } else if (turn == 2 && x.count(1) > 0) {
-                int p = draw(seed, x.count(1));
-                x.carry(p, draw(seed, x.count(0)));
+    /** What days that are drawn do, by the other calls. */
+    static void daysByHand(ParlourLeaves x, int days, int seed) {
+        int parlours = x.count(0);
+        int plants = x.count(1);
+        int persons = x.count(2);
+        int deeds = x.count(3);
+        int[] by = {seed};
+        for (int k = 0; k < days * persons; k++) {
+            int turn = draw(by, 6);
+            if (turn == 0 && deeds > 0 && parlours > 0) {
+                int d = draw(by, deeds);
+                x.does(k % persons, d, draw(by, parlours));
+            } else if (turn == 1 && plants > 0) {
+                x.sponge(draw(by, plants));
+            } else if (turn == 2 && plants > 0) {
+                int p = draw(by, plants);
+                x.carry(p, draw(by, parlours));
+            }
+            if (k % persons == persons - 1) {
+                x.days(1);
             }
         }
-        x.days(1);
+        if (persons == 0) {
+            x.days(days);
+        }
     }
 
-    /** All that is so in the house, as far as calls that change nothing tell it. */
+    /** All that is so in the house, as far as calls that change nothing tell it; the fewest calls, as an object has but 512. */
     static String state(ParlourLeaves x) {
-        StringBuilder s = new StringBuilder();
+        int parlours = x.count(0);
+        int plants = x.count(1);
+        int acts = x.now(1);
+        int said = x.said(NONE);
+        StringBuilder s = new StringBuilder(parlours + " " + plants + " " + acts + " " + said + ": ");
         for (int k = 0; k < 8; k++) {
-            s.append(x.now(k)).append(k < 6 ? "/" + x.count(k) + " " : " ");
+            s.append(x.now(k)).append(k > 1 && k < 6 ? "/" + x.count(k) + " " : " ");
         }
-        for (int p = 0; p < x.count(1); p++) {
+        for (int p = 0; p < plants; p++) {
             for (int what = 0; what < 8; what++) {
                 s.append(x.plant(p, what)).append(what < 7 ? "," : "; ");
             }
         }
-        for (int i = 0; i < x.now(1); i++) {
+        for (int i = 0; i < acts; i++) {
             for (int what = 0; what < 7; what++) {
                 s.append(x.act(i, what)).append(what < 6 ? "," : "; ");
             }
-            for (int p = 0; p < x.count(1); p++) {
+            for (int p = 0; p < plants; p++) {
                 s.append(x.comes(p, i)).append(' ');
             }
         }
-        for (int l = 0; l < x.count(0); l++) {
+        for (int l = 0; l < parlours; l++) {
             s.append("sights ").append(x.sights(l)).append(' ');
         }
-        for (int k = NONE; k < x.said(NONE); k++) {
+        for (int k = 0; k < said; k++) {
             s.append("said ").append(x.said(k)).append(' ');
         }
         return s.toString();

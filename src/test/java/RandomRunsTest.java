@@ -5,8 +5,9 @@ import java.util.function.LongSupplier;
 
 /** Runs of random calls, whose answers are compared with those of the Oracle. */
 public final class RandomRunsTest {
-    private static final int RUNS = 2500;
-    private static final int CALLS = 250;
+    private static final int RUNS = 6000;
+    /** What later calls of an object answer is free. */
+    private static final int MOST_CALLS = 512;
     private static final String[] POOL = {"parlour", "sight", "plant", "fern", "person", "deed", "dusty", "proof", "does",
         "sponge", "carry", "day", "or", "and", "not", "blind", "in", "sees", "tells", "leaves", "dust", "number", ";", "<",
         "=", ">", "(", ")", ".", "1", "0", "9", "60", "61", "007", "1000", "abcdefg", "abcdefgh", "a1", "A", "qa", "qb",
@@ -166,6 +167,9 @@ public final class RandomRunsTest {
     }
 
     private void same(String call, LongSupplier mine, LongSupplier due) {
+        if (calls.size() >= MOST_CALLS) {
+            return;
+        }
         calls.add(call);
         long want = Check.answer(due);
         boolean had = check.hasWrong();
@@ -313,7 +317,7 @@ public final class RandomRunsTest {
             int more = 15 + below(25);
             same("days(" + more + ")", () -> x.days(more), () -> o.days(more));
         }
-        for (int k = 0; k < CALLS; k++) {
+        while (calls.size() < MOST_CALLS) {
             int kind = below(40);
             if (kind < 2) {
                 texts();
@@ -327,7 +331,6 @@ public final class RandomRunsTest {
                 all();
             }
         }
-        all();
     }
 
     public static void main(String[] args) {
