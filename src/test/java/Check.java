@@ -1,9 +1,10 @@
 import java.io.IOException;
 import java.nio.file.Files;
 import java.nio.file.Path;
-import java.util.ArrayList;
+import java.util.LinkedHashSet;
 import java.util.List;
 import java.util.NoSuchElementException;
+import java.util.Set;
 import java.util.function.LongSupplier;
 
 /** Counts and prints the answers that are not as due. */
@@ -16,7 +17,7 @@ final class Check {
     private int asked = 0;
     private int wrong = 0;
     private String by = "";
-    private final List<String> sentences = new ArrayList<>();
+    private final Set<String> sentences = new LinkedHashSet<>();
 
     /** What is looked at next is due by these sentences of the document. */
     void says(String... quoted) {
